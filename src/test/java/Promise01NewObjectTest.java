@@ -16,6 +16,7 @@ public final class Promise01NewObjectTest {
         Check.dueThrow("parse of no text", Check.BAD, () -> p.parse(0));
         Check.dueThrow("parse without rules", Check.MISSING, () -> Check.parse(p, "a", Check.A));
         twoObjectsAreApart();
+        nothingIsMarkedBarredOrKeptFromFollowing();
         Check.end();
     }
 
@@ -29,5 +30,14 @@ public final class Promise01NewObjectTest {
         Check.rule(other, "A:a");
         Check.rule(other, "B:Ab");
         Check.due("follow of another", Check.ways(other, "ab", Check.B), 1);
+    }
+
+    private static void nothingIsMarkedBarredOrKeptFromFollowing() {
+        for (char c = 33; c <= 126; c++) {
+            SpanParser p = Check.of("A:BB", "B:x", "B:y", "B:#", "B:@", "B:C", "C:!");
+            boolean known = c >= '0' && c <= '9' || c >= 'a' && c <= 'z' || c == '!';
+            int ways = c == 'x' || c == 'y' ? 2 : known ? 1 : 0;
+            Check.due("x before " + c, Check.ways(p, "x" + c, Check.A), 2 * ways);
+        }
     }
 }

@@ -6,6 +6,9 @@ public final class Promise02TypeTest {
         wrongBytes();
         room();
         doesNotTouchTheParse();
+        everyByteInEveryPlace();
+        everyLengthAndEveryAddition();
+        refusedLeavesTheTextAsItWas();
         Check.end();
     }
 
@@ -59,5 +62,54 @@ public final class Promise02TypeTest {
         Check.dueWeight("weight", p.weight(), 1.0);
         Check.due("input", p.count(4), 1);
         Check.due("text", p.count(2), 3);
+    }
+
+    /** The byte alone, and with seven right ones round it. */
+    private static void everyByteInEveryPlace() {
+        for (int place = 0; place < 8; place++) {
+            for (int c = 0; c <= 255; c++) {
+                SpanParser p = new SpanParser();
+                long alone = (long) c << (8 * place);
+                long among = 0x7878787878787878L & ~(255L << (8 * place)) | alone;
+                if (c == 0) {
+                    Check.due("a 0 is left out", p.type(alone), 0);
+                    Check.due("a 0 among others is left out", p.type(among), 7);
+                } else if (c >= 33 && c <= 126) {
+                    Check.due("alone " + c, p.type(alone), 1);
+                    Check.due("among others " + c, p.type(among), 9);
+                } else {
+                    Check.dueThrow("alone " + c, Check.BAD, () -> p.type(alone));
+                    Check.dueThrow("among others " + c, Check.BAD, () -> p.type(among));
+                    Check.due("none was added", p.count(2), 0);
+                }
+            }
+        }
+    }
+
+    private static void everyLengthAndEveryAddition() {
+        for (int length = 0; length <= 14; length++) {
+            for (int added = 0; added <= 8; added++) {
+                SpanParser p = new SpanParser();
+                Check.type(p, "x".repeat(length));
+                long eight = Check.eight("x".repeat(added));
+                if (length + added <= 14) {
+                    Check.due(length + " and " + added, p.type(eight), length + added);
+                    Check.due("text", p.count(2), length + added);
+                } else {
+                    Check.dueThrow(length + " and " + added, Check.NO_ROOM, () -> p.type(eight));
+                    Check.due("none was added", p.count(2), length);
+                }
+            }
+        }
+    }
+
+    private static void refusedLeavesTheTextAsItWas() {
+        SpanParser p = Check.of("A:xyB", "B:z", "B:zB");
+        Check.type(p, "xyzzzzzz");
+        Check.dueThrow("a wrong byte", Check.BAD, () -> p.type(0x7878787878780078L | 0x7F00));
+        Check.dueThrow("one too many", Check.NO_ROOM, () -> p.type(Check.eight("zzzzzzz")));
+        Check.due("six more", p.type(Check.eight("zzzzzz")), 14);
+        Check.due("just these", p.parse(Check.A), 1);
+        Check.due("begun again", p.type(Check.eight("xyz")), 3);
     }
 }

@@ -8,6 +8,9 @@ public final class Promise03RuleTest {
         noRoom();
         chains();
         failuresKeepTheParse();
+        textStaysAfterAWrongWeight();
+        textIsEmptyAfterEachRefusal();
+        placeIsOfUnreadableTextsAlone();
         Check.end();
     }
 
@@ -130,5 +133,59 @@ public final class Promise03RuleTest {
         Check.dueWeight("weight", p.weight(), 1.0);
         Check.rule(p, "B:b");
         Check.dueThrow("weight after a rule", Check.MISSING, p::weight);
+    }
+
+    private static void textStaysAfterAWrongWeight() {
+        SpanParser p = new SpanParser();
+        Check.type(p, "A:a");
+        Check.dueThrow("too light", Check.BAD, () -> p.rule(0.1));
+        Check.type(p, "b");
+        Check.dueThrow("too heavy", Check.BAD, () -> p.rule(8.5));
+        Check.due("the text goes on", p.rule(1.0), 0);
+        Check.due("both parts", Check.ways(p, "ab", Check.A), 1);
+        Check.type(p, "A;");
+        Check.dueThrow("unreadable, but not read", Check.BAD, () -> p.rule(9.0));
+        Check.due("the text stays", p.count(2), 2);
+        Check.due("no place", p.count(1), -1);
+        Check.dueThrow("now it is read", Check.BAD, () -> p.rule(8.0));
+        Check.due("place", p.count(1), 1);
+        Check.due("empty", p.count(2), 0);
+        Check.type(p, "A:A");
+        Check.dueThrow("round, but not read", Check.BAD, () -> p.rule(0.0));
+        Check.due("the text stays", p.count(2), 3);
+        Check.dueThrow("now it is", Check.ROUND, () -> p.rule(0.125));
+    }
+
+    private static void textIsEmptyAfterEachRefusal() {
+        SpanParser p = Check.of("A:B");
+        Check.dueThrow("bad", Check.BAD, () -> Check.rule(p, "A:a:"));
+        Check.due("only what comes then", Check.rule(p, "C:c"), 1);
+        Check.dueThrow("round", Check.ROUND, () -> Check.rule(p, "B:A"));
+        Check.due("only what comes then", Check.rule(p, "D:d"), 2);
+        while (p.count(0) < 16) {
+            Check.rule(p, "F:f");
+        }
+        Check.dueThrow("no room", Check.NO_ROOM, () -> Check.rule(p, "E:e"));
+        p.undo();
+        Check.due("only what comes then", Check.rule(p, "E:g"), 15);
+        Check.due("the refused one isn't there", Check.ways(p, "e", Check.E), 0);
+        Check.due("the later one is", Check.ways(p, "g", Check.E), 1);
+    }
+
+    private static void placeIsOfUnreadableTextsAlone() {
+        SpanParser p = Check.of("A:B");
+        Check.dueThrow("unreadable", Check.BAD, () -> Check.rule(p, "A:abc:"));
+        Check.due("place", p.count(1), 5);
+        Check.dueThrow("round", Check.ROUND, () -> Check.rule(p, "B:A"));
+        Check.due("after a round one", p.count(1), 5);
+        Check.dueThrow("weight", Check.BAD, () -> Check.rule(p, "x", 9.0));
+        Check.due("after a wrong weight", p.count(1), 5);
+        Check.dueThrow("now unreadable", Check.BAD, () -> p.rule(1.0));
+        Check.due("place", p.count(1), 0);
+        while (p.count(0) < 16) {
+            Check.rule(p, "F:f");
+        }
+        Check.dueThrow("no room", Check.NO_ROOM, () -> Check.rule(p, "A:a:"));
+        Check.due("after no room", p.count(1), 0);
     }
 }

@@ -9,6 +9,9 @@ public final class Promise04MarkTest {
         wrongNumbers();
         goesWithTheRule();
         forgetsTheParse();
+        firstAndLastRule();
+        firstAndLastMark();
+        aRefusedMarkLeavesTheMark();
         Check.end();
     }
 
@@ -106,5 +109,49 @@ public final class Promise04MarkTest {
         Check.dueThrow("many", Check.MISSING, () -> p.many(0, 0, 1));
         Check.due("nodes", p.count(3), 0);
         Check.due("input", p.count(4), 0);
+    }
+
+    private static void firstAndLastRule() {
+        for (int rules = 1; rules <= 16; rules++) {
+            SpanParser p = new SpanParser();
+            for (int r = 0; r < rules; r++) {
+                Check.rule(p, "A:@");
+            }
+            int count = rules;
+            Check.dueThrow("before the first", Check.BAD, () -> p.mark(-1, 1));
+            Check.dueThrow("behind the last", Check.BAD, () -> p.mark(count, 1));
+            Check.due("none is rejecting", Check.ways(p, "x", Check.A), rules);
+            p.mark(rules - 1, 1);
+            Check.due("the last is rejecting", Check.ways(p, "x", Check.A), 0);
+            p.mark(rules - 1, 0);
+            p.mark(0, 1);
+            Check.due("the first is rejecting", Check.ways(p, "x", Check.A), 0);
+        }
+        SpanParser none = new SpanParser();
+        Check.dueThrow("no rule", Check.BAD, () -> none.mark(0, 0));
+    }
+
+    private static void firstAndLastMark() {
+        int[] ways = {4, 0, 3, 3};
+        SpanParser p = Check.of("A:AAAA", "A:x");
+        for (int how = 0; how <= 3; how++) {
+            p.mark(0, how);
+            Check.due("mark " + how, Check.ways(p, "xxxxxxx", Check.A), ways[how]);
+        }
+        p.mark(0, 2);
+        Check.dueThrow("below the first", Check.BAD, () -> p.mark(0, -1));
+        Check.dueThrow("above the last", Check.BAD, () -> p.mark(0, 4));
+        Check.due("leaning left still", Check.ways(p, "xxxxxxx", Check.A), 3);
+    }
+
+    private static void aRefusedMarkLeavesTheMark() {
+        SpanParser p = Check.of("A:A-A", "A:x");
+        p.mark(0, 3);
+        int[][] wrong = {{0, -1}, {0, 4}, {-1, 0}, {2, 0}, {0, 256}, {16, 2}};
+        for (int[] pair : wrong) {
+            Check.dueThrow("mark " + pair[0] + " " + pair[1], Check.BAD, () -> p.mark(pair[0], pair[1]));
+        }
+        Check.due("one way", Check.parse(p, "x-x-x", Check.A), 1);
+        Check.dueTree("leaning right", p, "0[0,5 4]1[0,1 0]0[2,5 2]1[2,3 0]1[4,5 0]");
     }
 }

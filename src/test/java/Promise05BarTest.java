@@ -8,6 +8,8 @@ public final class Promise05BarTest {
         changesTheHeaviest();
         wrongNumbers();
         forgetsTheParse();
+        firstAndLastRule();
+        aRefusedBarLeavesTheBars();
         Check.end();
     }
 
@@ -80,5 +82,47 @@ public final class Promise05BarTest {
         p.bar(0, 1, true);
         Check.dueThrow("weight", Check.MISSING, p::weight);
         Check.due("input", p.count(4), 0);
+    }
+
+    /** Sixteen rules, each of them barred under each other in turn. */
+    private static void firstAndLastRule() {
+        SpanParser p = Check.of("A:(A)");
+        for (int r = 1; r < 16; r++) {
+            Check.rule(p, r % 2 == 0 ? "A:(A)" : "A:x");
+        }
+        Check.due("x by eight, with eight round it", Check.ways(p, "(x)", Check.A), 64);
+        for (int r = 0; r < 16; r += 2) {
+            p.bar(r, 15, true);
+            Check.due("the last barred under " + r, Check.ways(p, "(x)", Check.A), 63);
+            Check.due("of the rule", p.many(r, 0, 3), 7);
+            p.bar(r, 15, false);
+        }
+        p.bar(15, 0, true);
+        p.bar(15, 15, true);
+        Check.due("a rule of a character has none below", Check.ways(p, "(x)", Check.A), 64);
+        p.bar(0, 0, true);
+        Check.due("the first under itself", Check.ways(p, "((x))", Check.A), 63 * 8);
+        for (boolean barred : new boolean[] {true, false}) {
+            Check.dueThrow("under one before the first", Check.BAD, () -> p.bar(-1, 0, barred));
+            Check.dueThrow("under one behind the last", Check.BAD, () -> p.bar(16, 0, barred));
+            Check.dueThrow("one before the first", Check.BAD, () -> p.bar(0, -1, barred));
+            Check.dueThrow("one behind the last", Check.BAD, () -> p.bar(0, 16, barred));
+            Check.dueThrow("a number that wraps round", Check.BAD, () -> p.bar(0, 32, barred));
+        }
+        Check.due("as before", Check.ways(p, "((x))", Check.A), 63 * 8);
+    }
+
+    private static void aRefusedBarLeavesTheBars() {
+        SpanParser p = Check.of("A:(B)", "B:x", "B:x");
+        p.bar(0, 1, true);
+        int[][] wrong = {{0, 3}, {3, 1}, {-1, 1}, {0, -1}, {0, 33}, {16, 1}};
+        for (int[] pair : wrong) {
+            Check.dueThrow("free " + pair[0] + " " + pair[1], Check.BAD, () -> p.bar(pair[0], pair[1], false));
+            Check.dueThrow("bar " + pair[0] + " " + pair[1], Check.BAD, () -> p.bar(pair[0], pair[1], true));
+        }
+        Check.due("one barred, one not", Check.ways(p, "(x)", Check.A), 1);
+        Check.due("which", p.node(1, 0), 2);
+        Check.due("and a new rule isn't barred", Check.rule(p, "B:x"), 3);
+        Check.due("two", Check.ways(p, "(x)", Check.A), 2);
     }
 }

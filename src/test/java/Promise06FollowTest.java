@@ -10,6 +10,9 @@ public final class Promise06FollowTest {
         wrongNumbers();
         outlivesTheRules();
         forgetsTheParse();
+        firstAndLastNonterminal();
+        firstAndLastCharacter();
+        aRefusedFollowLeavesWhatMay();
         Check.end();
     }
 
@@ -104,5 +107,56 @@ public final class Promise06FollowTest {
         p.follow(Check.F, 'z', false);
         Check.dueThrow("weight", Check.MISSING, p::weight);
         Check.due("input", p.count(4), 0);
+    }
+
+    private static void firstAndLastNonterminal() {
+        for (int n = 0; n < 6; n++) {
+            char left = (char) ('A' + n);
+            SpanParser p = Check.of(left + ":x", "A:" + left + "!", "B:" + left + "!");
+            p.follow(n, '!', false);
+            Check.due("may not follow " + left, Check.ways(p, "x!", n == 0 ? Check.B : Check.A), 0);
+            for (int other = 0; other < 6; other++) {
+                p.follow(other, '!', other != n);
+            }
+            Check.due("others may not matter", Check.ways(p, "x!", n == 0 ? Check.B : Check.A), 0);
+            p.follow(n, '!', true);
+            Check.due("may follow " + left + " again", Check.ways(p, "x!", n == 0 ? Check.B : Check.A), 1);
+        }
+        SpanParser p = new SpanParser();
+        Check.dueThrow("before A", Check.BAD, () -> p.follow(-1, '!', false));
+        Check.dueThrow("behind F", Check.BAD, () -> p.follow(6, '!', false));
+    }
+
+    /** One character forbidden at a time: the others, its neighbours too, may follow. */
+    private static void firstAndLastCharacter() {
+        for (int c : new int[] {33, 34, 125, 126}) {
+            SpanParser p = Check.of("A:B!", "A:B\"", "A:B}", "A:B~", "B:x");
+            p.follow(Check.B, c, false);
+            for (int behind : new int[] {33, 34, 125, 126}) {
+                Check.due("x before " + behind, Check.ways(p, "x" + (char) behind, Check.A), behind == c ? 0 : 1);
+            }
+        }
+        SpanParser p = new SpanParser();
+        Check.dueThrow("below the first", Check.BAD, () -> p.follow(Check.B, 32, false));
+        Check.dueThrow("above the last", Check.BAD, () -> p.follow(Check.A, 127, false));
+        p.follow(Check.A, 33, false);
+        p.follow(Check.F, 126, false);
+    }
+
+    /** A character out of range must not count as one of the nonterminal before or behind. */
+    private static void aRefusedFollowLeavesWhatMay() {
+        SpanParser p = Check.of("D:A!", "D:B!", "D:C!", "E:A~", "E:B~", "E:C~", "A:x", "B:x", "C:x");
+        p.follow(Check.B, '!', false);
+        p.follow(Check.B, '~', false);
+        int[][] wrong = {{Check.B, 32}, {Check.B, 127}, {Check.A, 127}, {Check.C, 32}, {-1, 33}, {6, 126}, {Check.B, 0},
+            {Check.B, 256 + 33}};
+        for (int[] pair : wrong) {
+            Check.dueThrow("not " + pair[0] + " " + pair[1], Check.BAD, () -> p.follow(pair[0], pair[1], false));
+            Check.dueThrow("may " + pair[0] + " " + pair[1], Check.BAD, () -> p.follow(pair[0], pair[1], true));
+        }
+        Check.due("before !", Check.ways(p, "x!", Check.D), 2);
+        Check.due("not B", p.many(1, 0, 2), 0);
+        Check.due("before ~", Check.ways(p, "x~", Check.E), 2);
+        Check.due("not B", p.many(4, 0, 2), 0);
     }
 }

@@ -7,6 +7,11 @@ public final class Promise07UndoTest {
         nothingThere();
         forgetsTheParse();
         leavesTextAndPlace();
+        fromSixteenToNone();
+        everyBarOfIt();
+        theWeightGoes();
+        whatMayFollowStays();
+        noneLeavesAll();
         Check.end();
     }
 
@@ -81,5 +86,76 @@ public final class Promise07UndoTest {
         p.undo();
         Check.due("text", p.count(2), 3);
         Check.due("place", p.count(1), 1);
+    }
+
+    private static void fromSixteenToNone() {
+        SpanParser p = new SpanParser();
+        for (int r = 0; r < 16; r++) {
+            Check.rule(p, "A:@");
+        }
+        for (int left = 15; left >= 0; left--) {
+            p.undo();
+            Check.due("rules", p.count(0), left);
+            Check.due("ways", Check.ways(p, "x", Check.A), left);
+        }
+        Check.dueThrow("none", Check.MISSING, p::undo);
+        Check.due("rules", p.count(0), 0);
+        for (int r = 0; r < 16; r++) {
+            Check.due("numbers again", Check.rule(p, "A:@"), r);
+        }
+        Check.dueThrow("no more than before", Check.NO_ROOM, () -> Check.rule(p, "A:@"));
+    }
+
+    /** The latest of sixteen rules, barred under all and all barred under it, comes back without bars. */
+    private static void everyBarOfIt() {
+        SpanParser p = new SpanParser();
+        for (int r = 0; r < 15; r++) {
+            Check.rule(p, r < 7 ? "A:(A)" : "A:x");
+        }
+        Check.rule(p, "A:(A)");
+        for (int r = 0; r < 16; r++) {
+            p.bar(r, 15, true);
+            p.bar(15, r, true);
+        }
+        Check.due("barred", Check.ways(p, "((x))", Check.A), 7 * 7 * 8);
+        p.undo();
+        Check.due("without it", Check.ways(p, "((x))", Check.A), 7 * 7 * 8);
+        Check.rule(p, "A:(A)");
+        Check.due("without its bars", Check.ways(p, "((x))", Check.A), 8 * 8 * 8);
+    }
+
+    private static void theWeightGoes() {
+        SpanParser p = new SpanParser();
+        Check.rule(p, "A:x", 2.0);
+        Check.rule(p, "A:x", 8.0);
+        p.undo();
+        Check.parse(p, "x", Check.A);
+        Check.dueWeight("of the other", p.weight(), 2.0);
+        Check.rule(p, "A:x", 4.0);
+        Check.parse(p, "x", Check.A);
+        Check.dueWeight("of the new one", p.weight(), 4.0);
+    }
+
+    private static void whatMayFollowStays() {
+        SpanParser p = Check.of("A:Bx", "B:b");
+        p.follow(Check.B, 'x', false);
+        p.undo();
+        p.undo();
+        Check.rule(p, "A:Bx");
+        Check.rule(p, "B:b");
+        Check.due("no bar of a rule", Check.ways(p, "bx", Check.A), 0);
+    }
+
+    private static void noneLeavesAll() {
+        SpanParser p = new SpanParser();
+        Check.dueThrow("unreadable", Check.BAD, () -> Check.rule(p, "A:"));
+        Check.due("missing", Check.ways(p, "abc", Check.A), 0);
+        Check.type(p, "A:a");
+        Check.dueThrow("none", Check.MISSING, p::undo);
+        Check.due("rules", p.count(0), 0);
+        Check.due("place", p.count(1), 2);
+        Check.due("text", p.count(2), 3);
+        Check.due("input", p.count(4), 3);
+        Check.due("the text is read", p.rule(1.0), 0);
     }
 }

@@ -9,6 +9,12 @@ public final class Promise08ParseTest {
         missing();
         bad();
         longestInput();
+        firstAndLastNonterminal();
+        shortestInput();
+        emptyTextIsBad();
+        goodForAllOfIt();
+        noneOfItsRules();
+        missingTakesTheText();
         Check.end();
     }
 
@@ -106,5 +112,86 @@ public final class Promise08ParseTest {
         Check.due("nodes", p.count(3), 14);
         Check.due("shorter again", Check.parse(p, "aa", Check.A), 1);
         Check.due("nodes", p.count(3), 2);
+    }
+
+    private static void firstAndLastNonterminal() {
+        SpanParser p = Check.of("A:a", "B:b", "C:c", "D:d", "E:e", "F:f");
+        for (int n = 0; n < 6; n++) {
+            for (int c = 0; c < 6; c++) {
+                String input = String.valueOf((char) ('a' + c));
+                Check.due(input + " as " + n, Check.ways(p, input, n), n == c ? 1 : 0);
+            }
+        }
+        Check.parse(p, "f", Check.F);
+        Check.type(p, "ab");
+        for (int n : new int[] {-1, 6, 32, -6}) {
+            Check.dueThrow("as " + n, Check.BAD, () -> p.parse(n));
+        }
+        Check.due("the text stays", p.count(2), 2);
+        Check.due("the input stays", p.count(4), 1);
+        Check.dueTree("the tree stays", p, "5[0,1 0]");
+        Check.due("what can be asked stays", p.many(5, 0, 1), 1);
+    }
+
+    private static void shortestInput() {
+        SpanParser p = Check.of("A:a", "A:AA");
+        Check.due("one character", Check.parse(p, "a", Check.A), 1);
+        Check.due("input", p.count(4), 1);
+        Check.due("over it", p.many(0, 0, 1), 1);
+    }
+
+    private static void emptyTextIsBad() {
+        SpanParser p = Check.of("A:a");
+        for (int n = -1; n <= 6; n++) {
+            int as = n;
+            Check.dueThrow("before any text, as " + n, Check.BAD, () -> p.parse(as));
+        }
+        Check.due("no place", p.count(1), -1);
+        Check.due("no input", p.count(4), 0);
+        Check.parse(p, "a", Check.A);
+        Check.dueThrow("after a parse", Check.BAD, () -> p.parse(Check.A));
+        Check.due("the input stays", p.count(4), 1);
+        Check.dueWeight("the weight stays", p.weight(), 1.0);
+        Check.dueThrow("a missing parse", Check.MISSING, () -> Check.parse(p, "bb", Check.A));
+        Check.dueThrow("after a missing parse", Check.BAD, () -> p.parse(Check.A));
+        Check.due("the input stays", p.count(4), 2);
+        Check.due("and can be asked", p.many(0, 0, 1), 0);
+        Check.dueThrow("unreadable", Check.BAD, () -> Check.rule(p, "A:a:"));
+        Check.dueThrow("after an unreadable text", Check.BAD, () -> p.parse(Check.A));
+        Check.due("the place stays", p.count(1), 3);
+    }
+
+    private static void goodForAllOfIt() {
+        SpanParser p = Check.of("A:@", "A:x", "B:A", "B:@");
+        p.mark(1, 1);
+        Check.dueThrow("it has a derivation, but isn't good", Check.MISSING, () -> Check.parse(p, "x", Check.A));
+        Check.due("the derivation", p.many(0, 0, 1), 1);
+        Check.due("another nonterminal is", Check.parse(p, "x", Check.B), 1);
+        Check.due("another input is", Check.parse(p, "y", Check.A), 1);
+        p.follow(Check.A, 'x', false);
+        p.follow(Check.A, 'y', false);
+        Check.due("nothing follows all of it", Check.parse(p, "y", Check.A), 1);
+    }
+
+    private static void noneOfItsRules() {
+        SpanParser p = Check.of("A:a");
+        Check.dueThrow("no rules of it", Check.MISSING, () -> Check.parse(p, "a", Check.B));
+        Check.dueThrow("none over it", Check.MISSING, () -> Check.parse(p, "b", Check.A));
+        Check.dueThrow("none over all of it", Check.MISSING, () -> Check.parse(p, "aa", Check.A));
+        p.mark(0, 1);
+        Check.dueThrow("just rejecting ones", Check.MISSING, () -> Check.parse(p, "b", Check.A));
+    }
+
+    private static void missingTakesTheText() {
+        SpanParser p = Check.of("A:a");
+        Check.parse(p, "a", Check.A);
+        Check.type(p, "abc");
+        Check.dueThrow("missing", Check.MISSING, () -> p.parse(Check.A));
+        Check.due("text", p.count(2), 0);
+        Check.due("input", p.count(4), 3);
+        Check.due("nodes", p.count(3), 0);
+        Check.due("over the first", p.many(0, 0, 1), 1);
+        Check.due("over the last", p.many(0, 2, 3), 0);
+        Check.due("begun again", p.type('a'), 1);
     }
 }

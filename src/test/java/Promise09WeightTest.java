@@ -6,6 +6,9 @@ public final class Promise09WeightTest {
         heaviestNotFirst();
         extremes();
         missing();
+        refusedCallsLeaveIt();
+        changesThatChangeNothing();
+        afterAParseAgain();
         Check.end();
     }
 
@@ -96,5 +99,63 @@ public final class Promise09WeightTest {
             changes[i].run();
             Check.dueThrow("after change " + i, Check.MISSING, p::weight);
         }
+    }
+
+    private static void refusedCallsLeaveIt() {
+        SpanParser p = new SpanParser();
+        Check.rule(p, "A:a", 3.5);
+        Check.parse(p, "a", Check.A);
+        Check.dueThrow("mark", Check.BAD, () -> p.mark(1, 0));
+        Check.dueThrow("mark", Check.BAD, () -> p.mark(0, 4));
+        Check.dueThrow("bar", Check.BAD, () -> p.bar(0, 1, true));
+        Check.dueThrow("follow", Check.BAD, () -> p.follow(6, 'a', false));
+        Check.dueThrow("follow", Check.BAD, () -> p.follow(0, 127, false));
+        Check.dueThrow("rule", Check.BAD, () -> Check.rule(p, "A:"));
+        Check.dueThrow("rule", Check.ROUND, () -> Check.rule(p, "A:A"));
+        Check.dueThrow("parse", Check.BAD, () -> p.parse(Check.A));
+        Check.type(p, "xyz");
+        Check.dueThrow("rule", Check.BAD, () -> p.rule(8.5));
+        Check.dueThrow("parse", Check.BAD, () -> p.parse(6));
+        Check.dueThrow("type", Check.BAD, () -> p.type(32));
+        Check.dueThrow("node", Check.MISSING, () -> p.node(1, 0));
+        Check.dueThrow("many", Check.MISSING, () -> p.many(0, 0, 2));
+        Check.dueWeight("none of them changed a rule", p.weight(), 3.5);
+        Check.dueTree("nor the tree", p, "0[0,1 0]");
+        SpanParser full = new SpanParser();
+        while (full.count(0) < 16) {
+            Check.rule(full, "A:a", 3.5);
+        }
+        Check.parse(full, "a", Check.A);
+        Check.dueThrow("no room", Check.NO_ROOM, () -> Check.rule(full, "A:a"));
+        Check.dueWeight("no rule came", full.weight(), 3.5);
+    }
+
+    /** The words tell of the calls, so a call that is taken counts as a change whatever was there. */
+    private static void changesThatChangeNothing() {
+        SpanParser p = Check.of("A:a");
+        Check.Call[] changes = {() -> p.mark(0, 0), () -> p.bar(0, 0, false), () -> p.follow(0, 'a', true)};
+        for (Check.Call change : changes) {
+            Check.parse(p, "a", Check.A);
+            change.run();
+            Check.dueThrow("after the call", Check.MISSING, p::weight);
+        }
+    }
+
+    private static void afterAParseAgain() {
+        SpanParser p = new SpanParser();
+        Check.rule(p, "A:a", 2.0);
+        Check.parse(p, "a", Check.A);
+        Check.rule(p, "A:a", 4.0);
+        Check.dueThrow("a rule came", Check.MISSING, p::weight);
+        Check.parse(p, "a", Check.A);
+        Check.dueWeight("parsed again", p.weight(), 4.0);
+        p.undo();
+        Check.dueThrow("a rule went", Check.MISSING, p::weight);
+        Check.parse(p, "a", Check.A);
+        Check.dueWeight("parsed again", p.weight(), 2.0);
+        Check.dueThrow("missing", Check.MISSING, () -> Check.parse(p, "b", Check.A));
+        Check.dueThrow("of a missing parse", Check.MISSING, p::weight);
+        Check.parse(p, "a", Check.A);
+        Check.dueWeight("parsed again", p.weight(), 2.0);
     }
 }

@@ -9,6 +9,9 @@ public final class Promise10NodeTest {
         fourSymbols();
         wrongNumbers();
         missing();
+        firstAndLastNode();
+        firstAndLastWhat();
+        asForWeight();
         Check.end();
     }
 
@@ -118,5 +121,54 @@ public final class Promise10NodeTest {
         Check.parse(p, "aaa", Check.A);
         p.follow(Check.B, 'x', false);
         Check.dueThrow("after a change", Check.MISSING, () -> p.node(0, 0));
+    }
+
+    private static void firstAndLastNode() {
+        SpanParser p = Check.of("A:AA", "A:x");
+        for (int length = 1; length <= 14; length++) {
+            Check.parse(p, "x".repeat(length), Check.A);
+            int nodes = 2 * length - 1;
+            Check.due("nodes", p.count(3), nodes);
+            Check.due("the first ends", p.node(0, 2), length);
+            Check.due("below the first", p.node(0, 3), nodes - 1);
+            Check.due("the last begins", p.node(nodes - 1, 1), length - 1);
+            Check.due("below the last", p.node(nodes - 1, 3), 0);
+            for (int what = 0; what <= 3; what++) {
+                int asked = what;
+                Check.dueThrow("before the first", Check.MISSING, () -> p.node(-1, asked));
+                Check.dueThrow("behind the last", Check.MISSING, () -> p.node(nodes, asked));
+            }
+        }
+    }
+
+    private static void firstAndLastWhat() {
+        SpanParser p = Check.of("B:b", "A:xBy");
+        Check.parse(p, "xby", Check.A);
+        int[] first = {1, 0, 3, 1};
+        int[] second = {0, 1, 2, 0};
+        for (int what = 0; what <= 3; what++) {
+            Check.due("first, what " + what, p.node(0, what), first[what]);
+            Check.due("second, what " + what, p.node(1, what), second[what]);
+        }
+        Check.dueThrow("below the first", Check.BAD, () -> p.node(0, -1));
+        Check.dueThrow("above the last", Check.BAD, () -> p.node(0, 4));
+        Check.dueThrow("and no such node", Check.BAD, () -> p.node(2, 4));
+        Check.dueTree("the tree stays", p, "1[0,3 1]0[1,2 0]");
+    }
+
+    private static void asForWeight() {
+        SpanParser p = Check.of("A:a", "B:b");
+        Check.Call[] changes = {() -> p.mark(1, 1), () -> p.bar(1, 1, true), () -> p.follow(5, 'q', false),
+            () -> p.undo(), () -> Check.rule(p, "C:c"), () -> Check.ways(p, "b", Check.A)};
+        for (int i = 0; i < changes.length; i++) {
+            Check.parse(p, "a", Check.A);
+            Check.due("before change " + i, p.node(0, 2), 1);
+            changes[i].run();
+            for (int what = 0; what <= 3; what++) {
+                int asked = what;
+                Check.dueThrow("after change " + i, Check.MISSING, () -> p.node(0, asked));
+            }
+            Check.dueThrow("bad is bad still", Check.BAD, () -> p.node(0, 4));
+        }
     }
 }

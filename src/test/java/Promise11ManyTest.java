@@ -6,6 +6,10 @@ public final class Promise11ManyTest {
         afterAMissingParse();
         wrongNumbers();
         forgotten();
+        firstAndLastRule();
+        everyPlace();
+        asForWeightButMissingWillDo();
+        ofAnInputThatWasLonger();
         Check.end();
     }
 
@@ -74,5 +78,67 @@ public final class Promise11ManyTest {
             changes[i].run();
             Check.dueThrow("after change " + i, Check.MISSING, () -> p.many(0, 0, 1));
         }
+    }
+
+    private static void firstAndLastRule() {
+        SpanParser p = new SpanParser();
+        for (int r = 0; r < 16; r++) {
+            Check.rule(p, "A:" + (char) ('a' + r));
+        }
+        Check.parse(p, "a", Check.A);
+        Check.due("the first", p.many(0, 0, 1), 1);
+        Check.due("the last", p.many(15, 0, 1), 0);
+        Check.parse(p, "p", Check.A);
+        Check.due("the first", p.many(0, 0, 1), 0);
+        Check.due("the last", p.many(15, 0, 1), 1);
+        Check.dueThrow("before the first", Check.BAD, () -> p.many(-1, 0, 1));
+        Check.dueThrow("behind the last", Check.BAD, () -> p.many(16, 0, 1));
+        Check.dueThrow("and no span", Check.BAD, () -> p.many(16, 1, 0));
+        p.undo();
+        Check.dueThrow("it went", Check.BAD, () -> p.many(15, 0, 1));
+        Check.dueThrow("and no parse since", Check.MISSING, () -> p.many(14, 0, 1));
+    }
+
+    /** All pairs of places from before the first to behind the last, for the shortest and longest inputs. */
+    private static void everyPlace() {
+        for (int length : new int[] {1, 2, 13, 14}) {
+            SpanParser p = Check.of("A:xA", "A:x");
+            Check.parse(p, "x".repeat(length), Check.A);
+            for (int i = -1; i <= length + 1; i++) {
+                for (int j = -1; j <= length + 1; j++) {
+                    int from = i;
+                    int to = j;
+                    if (i >= 0 && i < j && j <= length) {
+                        Check.due(i + " to " + j, p.many(0, i, j), j - i > 1 ? 1 : 0);
+                    } else {
+                        Check.dueThrow(i + " to " + j, Check.MISSING, () -> p.many(0, from, to));
+                    }
+                }
+            }
+        }
+    }
+
+    private static void asForWeightButMissingWillDo() {
+        SpanParser p = Check.of("A:a", "B:b");
+        Check.Call[] changes = {() -> p.mark(1, 1), () -> p.bar(1, 1, true), () -> p.follow(5, 'q', false),
+            () -> p.undo(), () -> Check.rule(p, "C:c")};
+        for (int i = 0; i < changes.length; i++) {
+            Check.dueThrow("missing", Check.MISSING, () -> Check.parse(p, "ba", Check.A));
+            Check.dueThrow("no weight", Check.MISSING, p::weight);
+            Check.due("a missing parse will do", p.many(0, 1, 2), 1);
+            Check.due("and tells none", p.many(0, 0, 1), 0);
+            changes[i].run();
+            Check.dueThrow("after change " + i, Check.MISSING, () -> p.many(0, 1, 2));
+        }
+    }
+
+    private static void ofAnInputThatWasLonger() {
+        SpanParser p = Check.of("A:xA", "A:x");
+        Check.parse(p, "xxxxxxxxxxxxxx", Check.A);
+        Check.due("fourteen", p.many(0, 0, 14), 1);
+        Check.parse(p, "xx", Check.A);
+        Check.due("two", p.many(0, 0, 2), 1);
+        Check.dueThrow("not three", Check.MISSING, () -> p.many(0, 0, 3));
+        Check.dueThrow("not fourteen", Check.MISSING, () -> p.many(0, 0, 14));
     }
 }
