@@ -86,7 +86,7 @@ public final class OracleTest {
 
     private static void compare(String what, SpanParser p, Oracle o) {
         StringBuilder text = new StringBuilder();
-        for (int length = 1 + pick(7); length > 0; length--) {
+        for (int length = 1 + pick(pick(4) == 0 ? 14 : 7); length > 0; length--) {
             text.append(INPUT.charAt(pick(INPUT.length())));
         }
         o.take(text.toString());
